@@ -120,6 +120,9 @@ public final class ActsTest {
         x.turn(0);
         DUE.is("least changes nothing", x.stick(0, 0) + x.stick(0, 1) + x.stick(0, 2) + x.stick(0, 4), 472);
         DUE.is("NOTCH stays", x.stick(0, 6), 0);
+        AlikeArrows y = Due.told("stick 112 300 50 60 0 3;bow 50 0;");
+        y.turn(0);
+        least(y, 300, 300, 1, 0, 0, 0, 1);
     }
 
     private static void leastOfSeveral() {

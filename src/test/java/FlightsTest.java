@@ -72,6 +72,13 @@ public final class FlightsTest {
         flight("WIND 4", x, 0, 0, 59, 9, 0, 2400 / 310, 66, 1);
         x.tune(3, -9);
         flight("WIND -9", x, 0, 0, 59, 9, 0, -17, 66, 1);
+        AlikeArrows y = Due.told("stick 112 600 50 50 1 0;stick 112 600 51 49 0 0;bow 50 0;");
+        y.tune(3, 9);
+        flight("5400 by 601", y, 0, 0, 50, 0, 0, 8, 120, 1);
+        y.tune(0, 0);
+        flight("OFF 1, CLEAR 0", y, 1, 0, 51, 1, -1, -1 + 9, 120, 2);
+        y.turn(1);
+        flight("OFF -1, CLEAR 0", y, 1, 0, 49, -1, 1, 1 + 9, 120, 5);
     }
 
     private static void cutTowardZero() {
@@ -291,6 +298,15 @@ public final class FlightsTest {
         x.turn(2);
         DUE.is("turned is as before", x.turned(0, 10, 4), 3);
         DUE.is("NOTCH stays", x.stick(0, 6), 1);
+        // GOES -10 or -98; -5 or 60: the pair begins by a side 0.
+        AlikeArrows y = Due.told("stick 112 300 60 99 0 0;stick 112 300 55 20 0 0;bow 50 0;");
+        DUE.is("turned from side 0", y.turned(0, 5, 0), 2);
+        DUE.is("turned 4", y.turned(0, 4, 0), 1);
+        DUE.is("sets before", y.alike(0, 5, 0, 0), 3);
+        Due.typed(y, "bow 50 0;");
+        y.arrows();
+        DUE.is("no sticks any more: turned", y.turned(0, 5, 0), 0);
+        DUE.is("no sticks any more: alike", y.alike(0, 5, 0, 0), 0);
     }
 
     private static void wrecks() {
@@ -370,6 +386,11 @@ public final class FlightsTest {
         y.tune(0, 20);
         warm(y, 0, 19, 0, 0);
         warm(y, 0, 20, 0, 0);
+        // SPINES -3, 5 against NEED 1: OFF -4, 4.
+        AlikeArrows z = Due.told("stick 130 201 20 20 200 0;stick 112 300 20 20 150 0;bow 20 0;");
+        warm(z, 0, 18, 0, 1);
+        warm(z, 0, 19, 0, 2);
+        warm(z, 0, 20, 0, 2);
         warm(x, 1, 21, Due.BAD, Due.BAD);
         DUE.is("warm what 2", x.warm(0, 0, 2), Due.BAD);
         DUE.is("warm bow 3", x.warm(3, 0, 0), Due.BAD);

@@ -10,6 +10,7 @@ public final class KindsTest {
         traces();
         rateWrong();
         keeps();
+        keepsWholeShots();
         keepsNothingElse();
         imagesByThemselves();
         imageWrong();
@@ -105,6 +106,22 @@ public final class KindsTest {
         x.shoot(0, 0, 0);
         DUE.is("back to an empty sheet", x.back(0), 0);
         DUE.is("empty sheet", x.shot(0, 0), Due.NO);
+    }
+
+    private static void keepsWholeShots() {
+        AlikeArrows x = Due.told(ALL + "archer right 3 0;");
+        x.shoot(0, 1, 1);
+        x.shoot(1, 0, 0);
+        x.keep(1);
+        int x0 = x.shot(0, 3), x1 = x.shot(1, 3);
+        x.wipe();
+        x.shoot(1, 0, 0);
+        x.shoot(0, 1, 1);
+        DUE.is("back", x.back(1), 2);
+        int[][] shots = {{0, 1, 1, x0, 59}, {1, 0, 0, x1, 67}};
+        for (int k = 0; k < shots.length; k++) {
+            for (int what = 0; what <= 4; what++) DUE.is("whole shot " + k + " " + what, x.shot(k, what), shots[k][what]);
+        }
     }
 
     private static void keepsNothingElse() {

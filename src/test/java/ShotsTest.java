@@ -178,6 +178,8 @@ public final class ShotsTest {
         partedOf(2, new int[] {2, 0, 1, 2, 3}, "21212", "22120", "10201");
         // 9 (cut one by one: 8); 9; 9 and a third.
         partedOf(2, new int[] {-1, 0, -2, -3, 0}, "12021", "20222", "02221");
+        // A half; 1; a half.
+        partedOf(1, new int[] {1, 0}, "00", "01", "22");
     }
 
     /** Shots of the given x: the wind alone moves a shaft of 600 grains that is CLEAN, by one for each WIND. */

@@ -220,6 +220,10 @@ public final class TextTest {
         fault("archer left ", 12);
         fault("archer left 5", 13);
         fault("bow 20 1;bow", 12);
+        fault("bow 20 1" + " ".repeat(392), 400);
+        fault(" ".repeat(397) + "bow", 400);
+        fault(" ".repeat(393) + "bow 20 ", 400);
+        fault(" ".repeat(399) + "9", 399);
     }
 
     private static void faultsOfMany() {
@@ -275,6 +279,18 @@ public final class TextTest {
         DUE.is("lot stays", x.lot(1234), 1234);
         x.rate(0, 0);
         DUE.is("trace goes on", x.trace(), 2);
+        x.turn(0);
+        x.turn(1);
+        Due.typed(x, STICK + "archer left 1 1;" + STICK);
+        DUE.is("a third time", x.arrows(), 3);
+        DUE.is("a third time: bows", x.count(1), 0);
+        DUE.is("a third time: archers", x.count(2), 1);
+        x.turn(0);
+        Due.typed(x, STICK + STICK);
+        DUE.is("a fourth time", x.arrows(), 2);
+        DUE.is("a fourth time: archers", x.count(2), 0);
+        DUE.is("a fourth time: NOTCH of 0", x.stick(0, 6), 0);
+        DUE.is("a fourth time: NOTCH of 1", x.stick(1, 6), 0);
         DUE.is("read nothing", x.arrows(), 0);
         DUE.is("nothing is there", x.count(0) + x.count(1), 0);
     }
