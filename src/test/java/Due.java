@@ -1,23 +1,42 @@
+import java.util.function.IntUnaryOperator;
+
 /** Counts the calls whose answer is not the one that is due, and prints each. */
 final class Due {
     static final int BAD = -1, STATE = -2, FULL = -3, NONE = -9, NO = -1000000;
 
     private final String test;
-    private int calls, wrong;
+    private String sentence = "";
+    private int calls, wrong, sentences;
 
     Due(String test) {
         this.test = test;
+    }
+
+    /** From here on the calls test this sentence of the document; what is wrong is told with its words. */
+    void sentence(String words) {
+        sentence = " [" + words + "]";
+        sentences++;
     }
 
     void is(String call, long got, long want) {
         calls++;
         if (got == want) return;
         wrong++;
-        System.out.println(test + ": " + call + " answered " + got + ", due is " + want);
+        System.out.println(test + sentence + ": " + call + " answered " + got + ", due is " + want);
+    }
+
+    /** A number that may be from least to most: what is due at both ends, and that it is refused just beyond them and far off. */
+    void range(String call, IntUnaryOperator by, int least, int atLeast, int most, int atMost, int refused) {
+        is(call + " by " + least, by.applyAsInt(least), atLeast);
+        is(call + " by " + most, by.applyAsInt(most), atMost);
+        for (int beyond : new int[] {least - 1, most + 1, Integer.MIN_VALUE, Integer.MAX_VALUE}) {
+            is(call + " by " + beyond, by.applyAsInt(beyond), refused);
+        }
     }
 
     void end() {
-        System.out.println(test + ": " + calls + " calls, " + wrong + " wrong");
+        String of = sentences == 0 ? "" : sentences + " sentences, ";
+        System.out.println(test + ": " + of + calls + " calls, " + wrong + " wrong");
         if (wrong != 0) System.exit(1);
     }
 
