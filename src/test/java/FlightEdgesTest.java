@@ -472,6 +472,10 @@ public final class FlightEdgesTest {
         alike(x, 5, 0, 3, 2);
         alike(x, 9, 0, 3, 2);
         alike(x, 10, 0, 7, 3);
+        // DROPS 60, 61, 62.
+        AlikeArrows z = Due.told("stick 112 310 50 50 0 0;stick 112 300 50 50 0 0;stick 112 305 50 50 0 0;bow 50 0;");
+        alike(z, 0, 1, 5, 2);
+        alike(z, 0, 2, 7, 3);
         // GOES alike by one, DROPS by another.
         AlikeArrows y = Due.told("stick 112 300 50 50 0 0;stick 112 310 50 50 0 0;stick 112 300 60 50 0 0;bow 50 0;");
         alike(y, 0, 0, 1, 1);

@@ -384,16 +384,27 @@ public final class KindEdgesTest {
 
     private static void readAnewFewer() {
         DUE.sentence("Read anew: fewer than before");
-        AlikeArrows x = Due.told("stick 112 300 60 50 30 4;".repeat(12) + "bow 20 0;bow 21 0;bow 22 0;");
-        Due.typed(x, "archer left 1 1;archer left 2 2;archer left 3 3;stick 90 222 33 44 5 6;");
-        DUE.is("arrows", x.arrows(), 4);
+        AlikeArrows x = new AlikeArrows();
+        // Often, as what was read before might be used again.
+        for (int times = 0; times < 3; times++) {
+            Due.typed(x, "stick 112 300 60 50 30 4;".repeat(12) + "bow 20 0;bow 21 0;bow 22 0;" + "archer left 1 1;".repeat(3));
+            DUE.is("arrows", x.arrows(), 18);
+        }
+        Due.typed(x, "archer left 2 2;stick 90 222 33 44 5 6;");
+        DUE.is("arrows", x.arrows(), 2);
         DUE.is("sticks", x.count(0), 1);
         DUE.is("bows", x.count(1), 0);
-        DUE.is("archers", x.count(2), 3);
+        DUE.is("archers", x.count(2), 1);
+        DUE.is("AIM", x.archer(0, 0), -2);
         DUE.is("stick 0", x.stick(0, 0), 90);
         DUE.is("stick 1", x.stick(1, 0), Due.BAD);
         DUE.is("bow 0", x.bow(0, 0), Due.BAD);
         DUE.is("a stick without a bow", x.flight(0, 0, 0), Due.NO);
+        Due.typed(x, "bow 33 3;");
+        DUE.is("arrows", x.arrows(), 1);
+        DUE.is("no sticks", x.count(0), 0);
+        DUE.is("no archers", x.count(2), 0);
+        DUE.is("archer 0", x.archer(0, 0), Due.NO);
     }
 
     private static void lastCall() {

@@ -267,17 +267,14 @@ public final class ShotEdgesTest {
 
     private static void partedByEach() {
         DUE.sentence("PARTED: for each one of these that has shots");
-        // The last ones alone, so that the others have none: 9 and 9 against nothing.
-        parted(0, new int[] {3, -3}, "12", "22", "22");
-        parted(1, new int[] {3, -3}, "22", "12", "22");
-        parted(2, new int[] {3, -3}, "22", "22", "12");
-        // The twelfth stick.
+        // Those between have none; the last one's 9 is more than 9 by 2.
+        parted(0, new int[] {3, 0}, "20", "11", "22");
+        parted(1, new int[] {3, 0}, "11", "20", "22");
+        parted(2, new int[] {3, 0}, "11", "22", "20");
+        // The same of the twelfth stick.
         AlikeArrows x = Due.told(SAME.repeat(12) + "bow 50 0;archer left 0 0;archer left 0 0;");
-        shootAt(x, 2, 11, 0, 0);
-        shootAt(x, 2, 10, 0, 1);
-        shootAt(x, -2, 10, 0, 1);
-        shootAt(x, -2, 0, 0, 0);
-        // 4 and 0 and 4, against 0.
+        shootAt(x, 3, 11, 0, 0);
+        shootAt(x, 0, 0, 0, 0);
         DUE.is("the twelfth, too", x.parted(), 0);
     }
 
@@ -285,8 +282,9 @@ public final class ShotEdgesTest {
         DUE.sentence("PARTED: x of all its shots added, squared");
         // Added first: 1 and -1 are nothing, 2 and 2 are 16 by 2.
         parted(1, new int[] {2, -2, 2, -2}, "0011", "0101", "0000");
-        // -3 and -3 are as much as 3 and 3: 18, 18 by 2 and 0.
-        parted(2, new int[] {-3, 3, -3, 3}, "0000", "0011", "0101");
+        // Below 0 it is as much: 9 and 0, 9 by 2.
+        parted(1, new int[] {-3, 0}, "00", "01", "00");
+        parted(2, new int[] {-3, -3, 0}, "000", "000", "001");
     }
 
     private static void partedByHowMany() {
@@ -312,30 +310,29 @@ public final class ShotEdgesTest {
 
     private static void partedOfManyCounts() {
         DUE.sentence("PARTED: all these added (counts without a common divisor, the farthest x)");
-        // 3, 4, 5, 7, 11, 13 and 17 shots by sticks are 60; x is -785 at most, as the archers wander.
-        StringBuilder text = new StringBuilder("stick 80 200 99 99 0 0;".repeat(7)).append("bow 20 0;bow 20 0;archer left 30 0;archer left 30 0;");
-        AlikeArrows x = Due.told(text.toString());
+        // All x are the same, so all three are, to the last part.
+        DUE.is("all the same", farShots(-9, 0, 0, 0), 0);
+        // The last one alone is up to 27 less far: told best by what it has alone.
+        for (int wind = -8; wind <= 0; wind++) {
+            DUE.is("the last one's stick, WIND " + wind, farShots(wind, 1, 0, 0), 0);
+            DUE.is("the last one's archer, WIND " + wind, farShots(wind, 0, 1, 0), 1);
+            DUE.is("the last one's bow, WIND " + wind, farShots(wind, 0, 0, 1), 2);
+        }
+    }
+
+    /** PARTED of 60 shots by sticks of 3, 4, 5, 7, 11, 13 and 17 (or 16, and one more of another); the last by its own wind. */
+    private static int farShots(int wind, int stick, int archer, int bow) {
+        AlikeArrows x = Due.told("stick 80 200 99 99 0 0;".repeat(8) + "bow 20 0;bow 20 0;archer left 30 0;archer left 30 0;");
         x.tune(2, 30);
         x.tune(3, -9);
-        int[] counts = {3, 4, 5, 7, 11, 13, 17};
-        int k = 0;
+        int[] counts = {3, 4, 5, 7, 11, 13, 16};
         for (int i = 0; i < counts.length; i++) {
-            for (int n = 0; n < counts[i]; n++, k++) DUE.is("shot " + k, x.shoot(i, k % 2, 0), -765);
+            for (int n = 0; n < counts[i]; n++) DUE.is("a far shot", x.shoot(i, 0, 0), -708 - 27 - 30);
         }
+        x.tune(3, wind);
+        DUE.is("the last shot", x.shoot(6 + stick, bow, archer), -708 + 3 * wind - 30);
         DUE.is("sixty shots", x.count(3), 60);
-        // All x are the same, so all three are, to the last part.
-        DUE.is("all the same", x.parted(), 0);
-        x.wipe();
-        k = 0;
-        x.tune(3, -8);
-        for (int i = 0; i < counts.length; i++) {
-            for (int n = 0; n < counts[i]; n++, k++) {
-                if (k == 59) x.tune(3, -9);
-                x.shoot(i, k == 59 ? 1 : 0, k == 59 ? 1 : 0);
-            }
-        }
-        // The last one alone is 3 farther: told best by who shot it alone.
-        DUE.is("one differs", x.parted(), 1);
+        return x.parted();
     }
 
     private static void spreadEnds() {

@@ -1,7 +1,6 @@
 /** One test for each sentence on sticks, bows, archers, TUNES and ACTS that names an edge: promises 5 to 13. */
 public final class StickEdgesTest {
     private static final Due DUE = new Due("StickEdgesTest");
-    private static final int[] FAR = {-1, Integer.MIN_VALUE, Integer.MAX_VALUE};
 
     public static void main(String[] args) {
         sticks();
@@ -413,7 +412,7 @@ public final class StickEdgesTest {
         DUE.range("stick", i -> x.least(i, 0, 200, 800, 0), 0, 0, 1, 1, Due.BAD);
         DUE.range("bow", b -> x.least(0, b, 200, 800, 0), 0, 0, 1, 0, Due.BAD);
         // BAD ahead of NONE.
-        for (int far : FAR) DUE.is("NONE by what " + far, x.least(0, 0, 200, 200, far), Due.BAD);
+        DUE.range("NONE by what", what -> x.least(0, 0, 200, 200, what), 0, Due.NONE, 4, Due.NONE, Due.BAD);
         DUE.is("nothing is told", new AlikeArrows().least(0, 0, 200, 800, 0), Due.BAD);
     }
 }
