@@ -15,7 +15,6 @@ public final class AlikeArrows {
 
     private static final int CLEAN = 1, STIFF = 2, SLAPPED = 4, SOFT = 5;
 
-    private final Text text;
     private final Reader reader;
     private final Tunes tunes;
     private final Sheet sheet;
@@ -27,13 +26,12 @@ public final class AlikeArrows {
     private int lotNow;
 
     public AlikeArrows() {
-        text = new Text();
-        reader = new Reader(text);
+        reader = new Reader();
         tunes = new Tunes();
         sheet = new Sheet();
         flock = new Flock();
         leastActs = new LeastActs();
-        kinds = new Kinds(tunes);
+        kinds = new Kinds();
         image0 = new Image();
         image1 = new Image();
         gear = new Gear();
@@ -45,13 +43,13 @@ public final class AlikeArrows {
 
     public int type(long v, int n) {
         if (!within(n, 1, 8)) return BAD;
-        if (text.size + n > MOST_BYTES) return FULL;
-        for (int k = n - 1; k >= 0; k--) text.add((int) (v >>> (8 * k)) & 255);
-        return text.size;
+        if (reader.size + n > MOST_BYTES) return FULL;
+        for (int k = n - 1; k >= 0; k--) reader.add((int) (v >>> (8 * k)) & 255);
+        return reader.size;
     }
 
     public int clear() {
-        return text.empty();
+        return reader.empty();
     }
 
     public int arrows() {
@@ -61,7 +59,7 @@ public final class AlikeArrows {
         Gear before = gear;
         gear = spare;
         spare = before;
-        text.empty();
+        reader.empty();
         sheet.empty();
         image0.kept = false;
         image1.kept = false;
@@ -297,7 +295,7 @@ public final class AlikeArrows {
         Stick s = gear.stickAt(i);
         Bow w = gear.bowAt(0);
         if (s == null || w == null) return NO;
-        return kinds.rateAs(kind, s, w);
+        return kinds.rateAs(kind, s, w, tunes.wind());
     }
 
     public int keep(int image) {
@@ -322,7 +320,7 @@ public final class AlikeArrows {
             case 1: return gear.bowCount;
             case 2: return gear.archerCount;
             case 3: return sheet.size;
-            case 4: return text.size;
+            case 4: return reader.size;
             default: return BAD;
         }
     }
@@ -511,31 +509,9 @@ public final class AlikeArrows {
         }
     }
 
-    private static final class Text {
-        private final int[] bytes = new int[MOST_BYTES];
-        int size;
-
-        void add(int b) {
-            if (size >= bytes.length) return;
-            bytes[size] = b;
-            size++;
-        }
-
-        /** The byte at a place; -1 behind the last, which is no sign at all. */
-        int at(int place) {
-            return place >= 0 && place < size ? bytes[place] : -1;
-        }
-
-        int empty() {
-            int before = size;
-            size = 0;
-            return before;
-        }
-    }
-
     /**
-     * Reads items. A take..() that refuses leaves the place at the first byte of the token that it
-     * refused (or at the text's end), so the place is the FAULT whenever a reading stops.
+     * THE TEXT, and how its items are read. A take..() that refuses leaves the place at the first byte
+     * of the token that it refused (or at the text's end), so the place is the FAULT whenever a reading stops.
      */
     private static final class Reader {
         private static final int[] STICK_LEASTS = {LEAST_LENGTH, LEAST_WEIGHT, LEAST_STIFF, LEAST_STIFF, 0, 0};
@@ -546,12 +522,25 @@ public final class AlikeArrows {
         private static final int[] ARCHER_LEASTS = {0, 0};
         private static final int[] ARCHER_MOSTS = {MOST_AIM, MOST_WANDER};
 
-        private final Text text;
-        private final int[] numbers = new int[6];
+        private final int[] bytes = new int[MOST_BYTES], numbers = new int[6];
         private int place;
+        int size;
 
-        Reader(Text text) {
-            this.text = text;
+        void add(int b) {
+            if (size >= bytes.length) return;
+            bytes[size] = b;
+            size++;
+        }
+
+        int empty() {
+            int before = size;
+            size = 0;
+            return before;
+        }
+
+        /** The byte at a place; -1 behind the last, which is no sign at all. */
+        private int byteAt(int at) {
+            return at >= 0 && at < size ? bytes[at] : -1;
         }
 
         /** How many items; -10 less FAULT. */
@@ -560,7 +549,7 @@ public final class AlikeArrows {
             place = 0;
             int items = 0;
             skipBlanks();
-            while (place < text.size && items < MOST_BYTES) {
+            while (place < size && items < MOST_BYTES) {
                 if (!readItem(gear)) return -10 - place;
                 items++;
                 skipBlanks();
@@ -610,17 +599,17 @@ public final class AlikeArrows {
         }
 
         private void skipBlanks() {
-            while (place < text.size && text.at(place) == ' ') place++;
+            while (place < size && byteAt(place) == ' ') place++;
         }
 
         private boolean takeWord(String word) {
             skipBlanks();
             int length = word.length();
             for (int k = 0; k < length; k++) {
-                if (text.at(place + k) != word.charAt(k)) return false;
+                if (byteAt(place + k) != word.charAt(k)) return false;
             }
             // A longer row of letters is another word.
-            if (within(text.at(place + length), 'a', 'z')) return false;
+            if (within(byteAt(place + length), 'a', 'z')) return false;
             place += length;
             return true;
         }
@@ -637,11 +626,11 @@ public final class AlikeArrows {
         /** The number; -1 if what stands there is no number from least to most. */
         private int takeNumber(int least, int most) {
             int value = 0, end = place;
-            while (end < text.size && within(text.at(end), '0', '9')) {
-                value = Math.min(1000, value * 10 + text.at(end) - '0');
+            while (end < size && within(byteAt(end), '0', '9')) {
+                value = Math.min(1000, value * 10 + byteAt(end) - '0');
                 end++;
             }
-            boolean zeroAhead = end - place > 1 && text.at(place) == '0';
+            boolean zeroAhead = end - place > 1 && byteAt(place) == '0';
             if (end == place || zeroAhead || !within(value, least, most)) return -1;
             place = end;
             return value;
@@ -649,7 +638,7 @@ public final class AlikeArrows {
 
         private boolean takeEnd() {
             skipBlanks();
-            if (text.at(place) != ';') return false;
+            if (byteAt(place) != ';') return false;
             place++;
             return true;
         }
@@ -909,19 +898,14 @@ public final class AlikeArrows {
 
     /** What rate() asks of each KIND; each body leaves its number in the trace. */
     private static final class Kinds {
-        private final Tunes tunes;
         long traced;
 
-        Kinds(Tunes tunes) {
-            this.tunes = tunes;
-        }
-
-        int rateAs(int kind, Stick s, Bow w) {
+        int rateAs(int kind, Stick s, Bow w, int wind) {
             switch (kind) {
                 case 0: return ofFlight(s);
                 case 1: return ofClean(s);
                 case 2: return ofStiff(s, w);
-                case 3: return ofWindy(s);
+                case 3: return ofWindy(s, wind);
                 case 4: return ofSlapped(s, w);
                 case 5: return ofSoft(s);
                 default: return NO;
@@ -943,9 +927,9 @@ public final class AlikeArrows {
             return ofFlight(s) - w.dropOf(s, s.feather);
         }
 
-        private int ofWindy(Stick s) {
+        private int ofWindy(Stick s, int wind) {
             traced += 1000;
-            return ofClean(s) + tunes.wind();
+            return ofClean(s) + wind;
         }
 
         private int ofSlapped(Stick s, Bow w) {
