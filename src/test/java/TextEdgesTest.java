@@ -16,6 +16,7 @@ public final class TextEdgesTest {
         textFull();
         badAheadOfFull();
         cleared();
+        nothingStaysBehind();
         itemsCounted();
         noItems();
         textIsEmptyThen();
@@ -154,6 +155,28 @@ public final class TextEdgesTest {
         DUE.is("all", x.clear(), 400);
         DUE.is("count", x.count(4), 0);
         DUE.is("an empty one", x.arrows(), 0);
+    }
+
+    /** A shorter text, typed once a longer one was cleared or read: nothing of that one stands behind it. */
+    private static void nothingStaysBehind() {
+        DUE.sentence("3, 4: THE TEXT is empty then: nothing of it stays behind what is typed next");
+        for (String[] item : ITEMS) {
+            String whole = joined(item);
+            for (int length = 1; length < whole.length() - 1; length++) {
+                // What is cut in the midst of a NUMBER or a word may be a FAULT of its own: as on a new object, then.
+                String text = whole.substring(0, length);
+                AlikeArrows fresh = new AlikeArrows(), cleared = new AlikeArrows(), read = Due.told(whole);
+                Due.typed(cleared, whole);
+                cleared.clear();
+                Due.typed(fresh, text);
+                Due.typed(cleared, text);
+                Due.typed(read, text);
+                int due = fresh.arrows();
+                DUE.is("\"" + text + "\" is none", due < 0 ? 1 : 0, 1);
+                DUE.is("\"" + text + "\", once the whole was cleared", cleared.arrows(), due);
+                DUE.is("\"" + text + "\", once the whole was read", read.arrows(), due);
+            }
+        }
     }
 
     private static void itemsCounted() {
